@@ -728,10 +728,6 @@ public final class BustRest {
             has |= 1 << part;
         }
 
-        private int arms() {
-            return Integer.bitCount(has & ARMS);
-        }
-
         private int greatestPart() {
             for (int part = LAST_PART; part > 0; part--) {
                 if (hasPart(part)) {
@@ -768,7 +764,7 @@ public final class BustRest {
                 case POET: return asPoet;
                 case STOIC: return asStoic;
                 case ORATOR: return asOrator;
-                case CICERO: return Math.max(0, asOrator - arms());
+                case CICERO: return Math.max(0, asOrator - Integer.bitCount(has & ARMS));
                 case TORSO: return 1;
                 case HOMER: return 2 * asPoet;
                 default: return asBust;
@@ -809,7 +805,7 @@ public final class BustRest {
             int asBust = 10 * Integer.bitCount(has);
             int asPoet = asBust + greatestPart();
             int asStoic = Math.max(0, asBust - yearning);
-            int asOrator = asStoic + 7 * arms();
+            int asOrator = asStoic + 7 * Integer.bitCount(has & ARMS);
             switch (kind) {
                 case POET: return asPoet;
                 case STOIC: return asStoic;

@@ -34,7 +34,7 @@ final class Due {
         }
     }
 
-    /** A new object with busts of kinds 0, 1, .. and of dates 10, 20, .. */
+    /** A new object with busts of these kinds and of dates 10, 20, .. */
     static BustRest withKinds(int... kinds) {
         BustRest x = new BustRest();
         for (int i = 0; i < kinds.length; i++) {
@@ -43,16 +43,8 @@ final class Due {
         return x;
     }
 
-    static int feed(BustRest x, String text) {
-        int length = 0;
-        for (int i = 0; i < text.length(); i++) {
-            length = x.feed(text.charAt(i), 1);
-        }
-        return length;
-    }
-
+    /** What text() answers to a text. */
     static int read(BustRest x, String text) {
-        x.wipe();
         for (int i = 0; i < text.length(); i += 4) {
             int n = Math.min(4, text.length() - i);
             int bytes = 0;
@@ -64,6 +56,7 @@ final class Due {
         return x.text();
     }
 
+    /** A sheet with these numbers. */
     static void numbers(BustRest x, int s, int bits, int... numbers) {
         x.sheet(s, bits, numbers.length);
         for (int i = 0; i < numbers.length; i++) {
@@ -71,15 +64,12 @@ final class Due {
         }
     }
 
-    private static int set(int... members) {
+    /** A set, told by its members. */
+    static int set(int... members) {
         int set = 0;
         for (int m : members) {
             set |= 1 << m;
         }
         return set;
-    }
-
-    static int parts(int... parts) {
-        return set(parts);
     }
 }

@@ -14,6 +14,8 @@ import java.util.stream.IntStream;
 final class Model {
     /** A finding on its way out. */
     static final class Finding extends RuntimeException {
+        private static final long serialVersionUID = 1;
+
         final int which;
 
         Finding(int which) {
