@@ -219,6 +219,28 @@ public final class DrawsTextsTest {
         due("no more busts", x.count(1), 8);
     }
 
+    /** What stands on the tape behind a text, from an earlier one, is no part of it; nor is there a byte 120. */
+    private static void endsOfTapes() {
+        BustRest x = new BustRest();
+        due("text()", Due.read(x, "bust 123;store 11 99"), 2);
+        due("text() of less", Due.read(x, "bust 1"), 1);
+        due("date", x.of(1, 1), 1);
+        due("text() of a begun word", Due.read(x, "bus"), -1);
+        due("text() of a word", Due.read(x, "store"), -6);
+        due("text() of a blank", Due.read(x, "bust 7 "), 1);
+        due("text() of a blank", Due.read(x, " "), -2);
+        text(" ".repeat(120), -121);
+        text("a".repeat(120), -1);
+        text(";".repeat(120), -1);
+        text("9".repeat(120), -1);
+        text("bust 7" + " ".repeat(114), 1);
+        text("bust 7;" + " ".repeat(113), -121);
+        text("bust " + "0".repeat(114) + "7", 1);
+        text(" ".repeat(107) + "bust 7 sealed", 1);
+        text(" ".repeat(116) + "bust", -121);
+        text(" ".repeat(119) + "#", -120);
+    }
+
     public static void main(String[] args) {
         chances();
         chanceThatLeaves();
@@ -227,6 +249,7 @@ public final class DrawsTextsTest {
         feeding();
         faults();
         texts();
+        endsOfTapes();
         DUE.end();
     }
 }
