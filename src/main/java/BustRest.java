@@ -652,14 +652,15 @@ public final class BustRest {
 
     /** One bust, and what its kind makes of it. */
     private static final class Bust {
-        private int kind = BUST;
-        private int date = 0;
-        private int has = 3;
-        private int cell = 0;
-        private int yearning = 0;
-        private int sealed = 0;
-        private int gone = 0;
+        private int kind;
+        private int date;
+        private int has;
+        private int cell;
+        private int yearning;
+        private int sealed;
+        private int gone;
 
+        /** Each bust begins by this, also where another one of its number was before an image came back. */
         private void begin(int ofKind, int ofDate) {
             kind = ofKind;
             date = ofDate;

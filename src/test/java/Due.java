@@ -43,8 +43,8 @@ final class Due {
         return x;
     }
 
-    /** What text() answers to a text. */
-    static int read(BustRest x, String text) {
+    /** Puts a text behind what the tape has. */
+    static void feed(BustRest x, String text) {
         for (int i = 0; i < text.length(); i += 4) {
             int n = Math.min(4, text.length() - i);
             int bytes = 0;
@@ -53,6 +53,11 @@ final class Due {
             }
             x.feed(bytes, n);
         }
+    }
+
+    /** What text() answers to a text. */
+    static int read(BustRest x, String text) {
+        feed(x, text);
         return x.text();
     }
 
