@@ -106,10 +106,8 @@ public final class BustRest {
         if (!within(kind, LAST_KIND) || !within(date, LATEST_DATE)) {
             return found(BEYOND);
         }
-        if (library.isFull()) {
-            return found(FULL);
-        }
-        return library.addBust(kind, date);
+        int number = library.addBust(kind, date);
+        return number < 0 ? found(FULL) : number;
     }
 
     public int of(int bust, int what) {
@@ -889,13 +887,9 @@ public final class BustRest {
             }
         }
 
-        private boolean isFull() {
-            return number >= MOST_BUSTS;
-        }
-
         /** The number of the new bust; -1 where there is no room. */
         private int addBust(int kind, int date) {
-            if (isFull()) {
+            if (number >= MOST_BUSTS) {
                 return -1;
             }
             busts[number].begin(kind, date);
@@ -1259,15 +1253,18 @@ public final class BustRest {
             return true;
         }
 
+        /** It is added before its date is read, for of a bust too many its own word is the fault. */
         private boolean readBust(int kind) {
-            if (library.isFull()) {
+            int number = library.addBust(kind, 0);
+            if (number < 0) {
                 return false;
             }
+            Bust bust = library.busts[number];
             tape.readToken();
             if (!tape.isNumber(LATEST_DATE)) {
                 return false;
             }
-            Bust bust = library.busts[library.addBust(kind, tape.value)];
+            bust.date = tape.value;
             tape.readToken();
             return readMore(bust, "has", HAS) && readMore(bust, "at", CELL) && readSeal(bust);
         }

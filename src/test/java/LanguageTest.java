@@ -108,9 +108,37 @@ public final class LanguageTest {
         }
     }
 
+    /** Methods are short, and just fields and constructors make objects: no call takes of the room. */
+    private static void methods() throws IOException {
+        Pattern head = Pattern.compile("( {4}| {8})(public|private) (?:(?!class\\b)[\\w\\[\\]]+ )*\\w+\\(.*\\{");
+        Pattern constructor = Pattern.compile(" +(public|private) \\w+\\(.*");
+        String end = "";
+        String method = "";
+        int start = 0;
+        int methods = 0;
+        String[] lines = bare(read("src/main/java/BustRest.java")).split("\n");
+        for (int i = 0; i < lines.length; i++) {
+            Matcher m = head.matcher(lines[i]);
+            if (m.matches()) {
+                end = m.group(1) + "}";
+                method = lines[i];
+                start = i;
+                methods++;
+            } else if (!end.isEmpty() && lines[i].equals(end)) {
+                DUE.due("sixty lines at most: " + method, i - start < 60 ? 1 : 0, 1);
+                end = "";
+            } else if (lines[i].matches(".*\\bnew\\b.*")) {
+                boolean once = end.isEmpty() || constructor.matcher(method).matches();
+                DUE.due("made once: " + lines[i], once ? 1 : 0, 1);
+            }
+        }
+        DUE.due("methods seen", methods > 41 ? 1 : 0, 1);
+    }
+
     public static void main(String[] args) throws IOException {
         face();
         words();
+        methods();
         DUE.end();
     }
 }
